@@ -548,6 +548,9 @@ public final class PromiseTest {
         s.base(2);
         s.times(2, 3, 2);
         due("the sum is INFINITY", () -> s.verify(2, 16L, 1, 1), false);
+        // 2 times BASE is 9, 1: without the rule about INFINITY it would fit 9, 1 of the message 2.
+        due("INFINITY does not fit", () -> s.verify(3, 2L, 9, 1), false);
+        due("INFINITY does not fit", () -> s.accepts(1, 0L, 2L, 9, 1), false);
     }
 
     /** On the curve 11, 2, 7 the point that is 3 times BASE fits these pairs and no other. */
