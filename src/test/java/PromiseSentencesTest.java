@@ -447,6 +447,7 @@ public final class PromiseSentencesTest {
             curve 1021 0 10 -> 1069
             key 0 1069 -> IllegalArgument
             key 0 1068                 # above p, and below n
+            point 0 -> 1,824
             curve 1021 32 22 -> 967
             key 0 967 -> IllegalArgument
             key 0 1020 -> IllegalArgument
@@ -660,9 +661,9 @@ public final class PromiseSentencesTest {
             code 1 plain -> 0x040010001b
             verify 1 77 19 5 -> true
             verify 2 77 19 5 -> false
+            accepts 1 0 77 19 5 -> false
             accepts 3 0x020010 77 19 5 -> false
             accepts 5 0x040010001b 77 19 5 -> true
-            accepts 1 0 77 19 5 -> false
             draws -> 4
             registers -> INFINITY 16,27 0,7 INFINITY
             sign 77 -> 1245189

@@ -512,6 +512,19 @@ public final class TermsOfCurvesTest {
 
     private static void sumModuloP(Sentences s) {
         s.holds(TERMS, "all reckoning modulo p", """
+            curve 17 2 2 -> 19
+            load 0 5 1
+            load 1 3 1
+            sum 2 0 1          # m^2 - x - u is -8
+            point 2 -> 9,16
+            load 1 0 6
+            sum 2 0 1
+            point 2 -> 13,7
+            load 0 16 13
+            load 1 16 13
+            sum 2 0 1
+            point 2 -> 0,11
+
             curve 1021 719 767 -> 1009
             load 0 243 138
             load 1 699 537

@@ -187,6 +187,48 @@ public final class TermsOfSignaturesTest {
             point 1 -> 11,1
             decode 1 3 0x02000b
             point 1 -> 11,1020
+            curve 7 0 3 -> 13
+            decode 0 3 0x020001
+            decode 1 3 0x030001
+            decode 2 3 0x020006
+            decode 3 3 0x030006
+            registers -> 1,2 1,5 6,4 6,3
+            curve 11 2 7 -> 7
+            decode 0 3 0x020006
+            decode 1 3 0x030006
+            decode 2 3 0x02000a
+            decode 3 3 0x03000a
+            registers -> 6,2 6,9 10,2 10,9
+            curve 23 5 1 -> 31
+            decode 0 3 0x020000
+            decode 1 3 0x030000
+            decode 2 3 0x020016
+            decode 3 3 0x030016
+            registers -> 0,22 0,1 22,8 22,15
+            curve 31 0 3 -> 43
+            decode 0 3 0x020001
+            decode 1 3 0x030001
+            decode 2 3 0x02001e
+            decode 3 3 0x03001e
+            registers -> 1,2 1,29 30,8 30,23
+            curve 257 5 30 -> 271
+            decode 0 3 0x020000
+            decode 1 3 0x030000
+            decode 2 3 0x0200fc
+            decode 3 3 0x0300fc
+            registers -> 0,162 0,95 252,44 252,213
+            curve 1009 330 520 -> 1031
+            decode 0 3 0x02000a
+            decode 1 3 0x03000a
+            decode 2 3 0x0203f0
+            decode 3 3 0x0303f0
+            registers -> 10,28 10,981 1008,944 1008,65
+            curve 1019 254 182 -> 1009
+            decode 0 3 0x020001
+            decode 1 3 0x030001
+            decode 2 3 0x0203f9
+            decode 3 3 0x0303f9
+            registers -> 1,496 1,523 1017,950 1017,69
             """);
     }
 
@@ -296,8 +338,12 @@ public final class TermsOfSignaturesTest {
             key 3 1068
             sign MAX -> 14877474
             verify 3 MAX 227 802 -> true
+            accepts 3 0x020001 MAX 227 802 -> true
             sign MIN -> 17236069
             verify 3 MIN 263 101 -> true
+            accepts 3 0x020001 MIN 263 101 -> true
+            verify 3 MAX 263 101 -> false
+            accepts 3 0x020001 MIN 227 802 -> false
             """);
     }
 

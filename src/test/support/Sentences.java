@@ -86,15 +86,14 @@ final class Sentences {
     }
 
     private String answer(String[] call) {
-        if (call[0].equals("point")) {
-            return point(number(call[1]));
-        }
-        if (call[0].equals("registers")) {
-            return point(0) + " " + point(1) + " " + point(2) + " " + point(3);
-        }
-        calls++;
         try {
-            return ask(call);
+            switch (call[0]) {
+                case "point": return point(number(call[1]));
+                case "registers": return point(0) + " " + point(1) + " " + point(2) + " " + point(3);
+                default:
+                    calls++;
+                    return ask(call);
+            }
         } catch (RuntimeException e) {
             return e.getClass().getSimpleName().replaceFirst("Exception$", "");
         }
